@@ -277,13 +277,13 @@ public final class KeyCodec {
     }
 
     private int withRank(int r) {
-        for (int i = 0; i < keptCount - 1; i++) {
+        for (int i = 0; i < keptCount; i++) {
             if (countBefore(i) == r) {
                 return i;
             }
         }
-        // The ranks are all different, so a rank that no other tuple has is the last one's.
-        return Math.max(keptCount - 1, 0);
+        // Not reached: each rank below keptCount is that of one tuple.
+        return 0;
     }
 
     /** A row of bytes, each 0 .. 255. */
