@@ -64,17 +64,17 @@ public final class KeyCodec {
         if (kind < INT || kind > INSTANT || flags < 0 || flags > ALL_FLAGS) {
             throw new IllegalArgumentException("no such kind or flags");
         }
-        if (schema.sealed || schema.count >= MOST_FIELDS) {
+        if (schema.closed || schema.count >= MOST_FIELDS) {
             throw new IllegalStateException("the schema takes no field more");
         }
         return schema.append(kind, flags);
     }
 
     public boolean seal() {
-        if (schema.sealed || schema.count == 0) {
+        if (schema.closed || schema.count == 0) {
             return false;
         }
-        schema.sealed = true;
+        schema.closed = true;
         loaded.reset();
         return true;
     }
@@ -124,7 +124,7 @@ public final class KeyCodec {
     }
 
     public int encode() throws IllegalStateException {
-        if (!schema.sealed) {
+        if (!schema.closed) {
             throw new IllegalStateException("the schema is open");
         }
         KeyWriter.writeKey(schema, loaded, keyRow);
@@ -148,7 +148,7 @@ public final class KeyCodec {
     }
 
     public boolean decode() throws IllegalStateException, IllegalArgumentException {
-        if (!schema.sealed) {
+        if (!schema.closed) {
             throw new IllegalStateException("the schema is open");
         }
         boolean sound = new KeyReader(schema, keyRow).readTuple(scratch);
@@ -166,7 +166,7 @@ public final class KeyCodec {
     }
 
     public int keep() throws IllegalStateException {
-        if (!schema.sealed || keptCount >= MOST_KEPT) {
+        if (!schema.closed || keptCount >= MOST_KEPT) {
             throw new IllegalStateException("the schema is open, or no tuple more can be kept");
         }
         int number = keptCount;
@@ -418,11 +418,11 @@ public final class KeyCodec {
         final int[] kinds = new int[MOST_FIELDS];
         final int[] flags = new int[MOST_FIELDS];
         int count = 0;
-        boolean sealed = false;
+        boolean closed = false;
 
         void reset() {
             count = 0;
-            sealed = false;
+            closed = false;
         }
 
         int append(int kind, int flagSet) {
@@ -436,7 +436,7 @@ public final class KeyCodec {
         }
 
         boolean isUsable(int f) {
-            return sealed && f >= 0 && f < count;
+            return closed && f >= 0 && f < count;
         }
 
         boolean has(int f, int flag) {
