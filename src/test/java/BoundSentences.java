@@ -1,5 +1,7 @@
 /** Promises 21 to 24: bounds, between, bound, within. */
 final class BoundSentences extends Sentences {
+    private static final String LOW = "LOW becomes the row of bytes of the first k fields of a kept tuple's key";
+
     /** Numbers of which none is kept when there are two. */
     private static final int[] NOT_OF_TWO = {-1, -2, 2, 3, 11, 12, LEAST, MOST};
 
@@ -15,9 +17,8 @@ final class BoundSentences extends Sentences {
 
     private static void bounds() {
         section("Promise 21");
-        sentence("LOW becomes the row of bytes of the first k fields of a kept tuple's key", BoundSentences::lowOfEachK);
-        sentence("LOW becomes the row of bytes of the first k fields of a kept tuple's key",
-                BoundSentences::lowOfTheKeptTuple);
+        sentence(LOW, BoundSentences::lowOfEachK);
+        sentence(LOW, BoundSentences::lowOfTheKeptTuple);
         sentence("(without the TAIL, also of all)", BoundSentences::lowWithoutTail);
         sentence("HIGH the least row of bytes behind all that begin with LOW", BoundSentences::highIsOneMore);
         sentence("HIGH the least row of bytes behind all that begin with LOW", BoundSentences::highDropsFullBytes);

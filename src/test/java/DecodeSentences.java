@@ -1,4 +1,7 @@
 import java.util.Arrays;
+import java.util.HashSet;
+import java.util.List;
+import java.util.Set;
 
 /** Promise 13: decode, row by row. */
 final class DecodeSentences extends Sentences {
@@ -18,6 +21,8 @@ final class DecodeSentences extends Sentences {
         sentence("IllegalStateException if the schema is open", DecodeSentences::decodeWhileOpen);
         sentence("IllegalStateException if the schema is open", DecodeSentences::stateBeforeArgument);
         sentence(NO_TUPLE, DecodeSentences::emptyAndFullRows);
+        sentence(NO_TUPLE, DecodeSentences::everyRowOfTwoBytes);
+        sentence(NO_TUPLE, DecodeSentences::everyOffset);
         sentence(NO_TUPLE, DecodeSentences::shorterAndLongerRows);
         sentence(NO_TUPLE, DecodeSentences::intMarks);
         sentence(NO_TUPLE, DecodeSentences::intsLongerThanNeeded);
@@ -146,6 +151,80 @@ final class DecodeSentences extends Sentences {
                 dueNoKey(kind, flags, repeated(1, 120));
                 dueNoKey(kind, flags, repeated(255, 120));
             }
+        }
+    }
+
+    /** Asks for many rows of one schema, with a new object now and then: each is good for 512 calls. */
+    private static final class Asker {
+        private static final int MOST_ROWS = 150;
+
+        private final int kind;
+        private final int flags;
+        private KeyCodec x = null;
+        private int rows = 0;
+
+        Asker(int kind, int flags) {
+            this.kind = kind;
+            this.flags = flags;
+        }
+
+        void due(int n, long bytes, boolean isKey) {
+            if (rows % MOST_ROWS == 0) {
+                x = sealedWith(kind, flags);
+            }
+            rows++;
+            x.clearKey();
+            x.load(n, bytes);
+            String what = "decode() of " + n + " bytes, " + bytes + ", kind " + kind + ", flags " + flags;
+            Sentences.due(what, answer(x, KeyCodec::decode), isKey ? true : ARGUMENT);
+        }
+    }
+
+    private static void addKey(KeyCodec x, Set<List<Integer>> keys) {
+        if (x.encode() <= 2) {
+            keys.add(keyRow(x));
+        }
+    }
+
+    /** All keys of one or two bytes: no others but those of these values can be that short. */
+    private static Set<List<Integer>> shortKeys(int kind, int flags) {
+        Set<List<Integer>> keys = new HashSet<>();
+        for (int number = -257; number <= 256; number++) {
+            KeyCodec x = sealedWith(kind, flags);
+            x.put(0, kind == TEXT ? 0 : number, 0);
+            addKey(x, keys);
+            if (kind == DECIMAL && x.put(0, 0, number)) {
+                addKey(x, keys);
+            }
+            if (x.absent(0)) {
+                addKey(x, keys);
+            }
+        }
+        return keys;
+    }
+
+    private static void everyRowOfTwoBytes() {
+        for (int kind = 0; kind <= 3; kind++) {
+            for (int flags : bytes(0, DOWN, OPTIONAL, OPTIONAL | LAST | DOWN)) {
+                Set<List<Integer>> keys = shortKeys(kind, flags);
+                Asker asker = new Asker(kind, flags);
+                for (int first = 0; first <= 255; first++) {
+                    asker.due(1, first, keys.contains(row(first)));
+                    for (int second = 0; second <= 255; second++) {
+                        asker.due(2, 256 * first + second, keys.contains(row(first, second)));
+                    }
+                }
+            }
+        }
+    }
+
+    private static void everyOffset() {
+        Asker up = new Asker(INSTANT, 0);
+        Asker down = new Asker(INSTANT, DOWN);
+        for (int tail = 0; tail <= 65535; tail++) {
+            boolean isKey = tail >= 1000 - 900 && tail <= 1000 + 900;
+            up.due(3, 128 * 65536 + tail, isKey);
+            down.due(3, 127 * 65536 + tail, isKey);
         }
     }
 

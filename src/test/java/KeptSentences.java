@@ -1,5 +1,8 @@
 /** Promises 14 to 20: keep, take, kept, compare, compareKeys, rank, shared. */
 final class KeptSentences extends Sentences {
+    private static final String SHARED = "How many bytes from the beginning on the keys of the kept tuple of rank r "
+            + "and that of rank r - 1 share";
+
     private KeptSentences() {
     }
 
@@ -337,12 +340,9 @@ final class KeptSentences extends Sentences {
 
     private static void shared() {
         section("Promise 20");
-        sentence("How many bytes from the beginning on the keys of the kept tuple of rank r and that of rank r - 1 share",
-                KeptSentences::sharedOfNeighbours);
-        sentence("How many bytes from the beginning on the keys of the kept tuple of rank r and that of rank r - 1 share",
-                KeptSentences::sharedWholeKeys);
-        sentence("How many bytes from the beginning on the keys of the kept tuple of rank r and that of rank r - 1 share",
-                KeptSentences::sharedUpToTheTail);
+        sentence(SHARED, KeptSentences::sharedOfNeighbours);
+        sentence(SHARED, KeptSentences::sharedWholeKeys);
+        sentence(SHARED, KeptSentences::sharedUpToTheTail);
         sentence("0 for the first", KeptSentences::sharedOfTheFirst);
         sentence("NONE if there is no such rank.", KeptSentences::sharedWithoutRank);
     }

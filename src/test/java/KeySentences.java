@@ -10,10 +10,10 @@ final class KeySentences extends Sentences {
             + "is LAST, 2 or 1";
     private static final String NOT_BELOW = "An INT v: if it is not below 0, n bytes, as many as it needs (0 for 0), "
             + "behind 128 + n, the highest first";
-    private static final String BELOW = "if it is, as many as -1 - v needs, n, behind 127 - n: the lowest n bytes of v, "
-            + "the highest first.";
-    private static final String FRACTION = "Else it is, but for the sign, a fraction 0.D1 D2 .. Dm times 10 to the power "
-            + "E, D1 and Dm not 0: 3, E + 64, D1 + 1, .. Dm + 1, 0";
+    private static final String BELOW = "if it is, as many as -1 - v needs, n, behind 127 - n: the lowest n bytes of "
+            + "v, the highest first.";
+    private static final String FRACTION = "Else it is, but for the sign, a fraction 0.D1 D2 .. Dm times 10 to the "
+            + "power E, D1 and Dm not 0: 3, E + 64, D1 + 1, .. Dm + 1, 0";
     private static final String TAIL = "The TAIL has for each field, in order, that is not ABSENT: of a DECIMAL its "
             + "scale, of an INSTANT 1000 more than its offset (two bytes, the higher one first).";
 

@@ -1,7 +1,9 @@
-/** The section Terms: what fields, values, their order and the tuple at first are. KeySentences has the rest. */
+/** The section Terms: fields, values, their order, and the limits; KeySentences has the bytes of a key. */
 final class TermsSentences extends Sentences {
-    private static final String USE = "An object is used for at most 512 calls after it has been made; what later calls "
-            + "answer is free.";
+    private static final String USE = "An object is used for at most 512 calls after it has been made; what later "
+            + "calls answer is free.";
+    private static final String LOADED = "THE LOADED tuple has, at first and whenever a schema is sealed, 0, the empty "
+            + "text, scale and offset 0, nothing ABSENT.";
     private static final String FLAGS = "each of a KIND with FLAGS: 1 DOWN; 2 OPTIONAL; 4 LAST.";
 
     /** Sets field 0 of the loaded tuple. */
@@ -114,7 +116,8 @@ final class TermsSentences extends Sentences {
 
     private static void values() {
         sentence("KINDS and their VALUES: 0 INT: a long.", TermsSentences::intIsLong);
-        sentence("1 DECIMAL: DIGITS, a long -LIMIT .. LIMIT, LIMIT being 10 to the 15th", TermsSentences::digitsHaveEnds);
+        sentence("1 DECIMAL: DIGITS, a long -LIMIT .. LIMIT, LIMIT being 10 to the 15th",
+                TermsSentences::digitsHaveEnds);
         sentence("and a SCALE 0 .. 9", TermsSentences::scaleHasEnds);
         sentence("digits divided by 10 to the scale.", TermsSentences::decimalIsDivided);
         sentence("2 TEXT: 0 to 10 bytes.", TermsSentences::textHasEnds);
@@ -408,10 +411,8 @@ final class TermsSentences extends Sentences {
     }
 
     private static void limits() {
-        sentence("THE LOADED tuple has, at first and whenever a schema is sealed, 0, the empty text, scale and offset 0, "
-                + "nothing ABSENT.", TermsSentences::tupleAtFirst);
-        sentence("THE LOADED tuple has, at first and whenever a schema is sealed, 0, the empty text, scale and offset 0, "
-                + "nothing ABSENT.", TermsSentences::tupleOfALaterSchema);
+        sentence(LOADED, TermsSentences::tupleAtFirst);
+        sentence(LOADED, TermsSentences::tupleOfALaterSchema);
         sentence("THE KEY ROW has at most 120 bytes, at first none.", TermsSentences::keyRowHasEnds);
         sentence("At most 12 tuples are KEPT, numbered 0, 1, ..", TermsSentences::twelveAreKept);
         sentence("The constants: NONE = -1: Nothing there.", TermsSentences::noneIsMinusOne);
