@@ -1,15 +1,23 @@
 import com.sun.source.tree.BinaryTree;
+import com.sun.source.tree.BlockTree;
 import com.sun.source.tree.ClassTree;
 import com.sun.source.tree.CompilationUnitTree;
+import com.sun.source.tree.CompoundAssignmentTree;
+import com.sun.source.tree.DoWhileLoopTree;
+import com.sun.source.tree.ExpressionStatementTree;
 import com.sun.source.tree.ExpressionTree;
+import com.sun.source.tree.ForLoopTree;
 import com.sun.source.tree.LiteralTree;
 import com.sun.source.tree.MethodInvocationTree;
 import com.sun.source.tree.MethodTree;
 import com.sun.source.tree.NewClassTree;
+import com.sun.source.tree.ParenthesizedTree;
 import com.sun.source.tree.ThrowTree;
 import com.sun.source.tree.Tree;
 import com.sun.source.tree.TryTree;
+import com.sun.source.tree.UnaryTree;
 import com.sun.source.tree.VariableTree;
+import com.sun.source.tree.WhileLoopTree;
 import com.sun.source.util.JavacTask;
 import com.sun.source.util.TreePath;
 import com.sun.source.util.TreePathScanner;
@@ -23,12 +31,13 @@ import java.util.List;
 import java.util.Map;
 import java.util.Set;
 import javax.lang.model.element.Element;
+import javax.lang.model.element.Modifier;
 import javax.lang.model.type.TypeMirror;
 import javax.tools.JavaCompiler;
 import javax.tools.StandardJavaFileManager;
 import javax.tools.ToolProvider;
 
-/** What of LANGUAGE.md can be read off the source: words, library, exceptions, sizes, depth of calls. */
+/** What of LANGUAGE.md can be read off the source: words, library, exceptions, loops, sizes, depth of calls. */
 public final class LanguageTest extends TreePathScanner<Void, Void> {
     private static final Path SOURCE = Path.of("src/main/java/KeyCodec.java");
     private static final int MOST_LINES = 60;
@@ -44,6 +53,9 @@ public final class LanguageTest extends TreePathScanner<Void, Void> {
     private static final Map<Tree.Kind, Integer> BANNED = Map.of(Tree.Kind.PACKAGE, 1, Tree.Kind.IMPORT, 4,
             Tree.Kind.LAMBDA_EXPRESSION, 2, Tree.Kind.MEMBER_REFERENCE, 2, Tree.Kind.SYNCHRONIZED, 6,
             Tree.Kind.ASSERT, 6);
+    private static final Set<Tree.Kind> ORDERS = Set.of(Tree.Kind.LESS_THAN, Tree.Kind.LESS_THAN_EQUAL,
+            Tree.Kind.GREATER_THAN, Tree.Kind.GREATER_THAN_EQUAL);
+    private static final Set<String> CONSTANTS = Set.of("int", "long", "boolean", "java.lang.String");
     private static final Set<String> TYPES = Set.of("int", "long", "boolean", "int[]", "java.lang.String");
 
     private final Trees trees;
@@ -132,6 +144,9 @@ public final class LanguageTest extends TreePathScanner<Void, Void> {
         String type = trees.getTypeMirror(new TreePath(getCurrentPath(), tree.getType())).toString();
         boolean own = isOwn(type.endsWith("[]") ? type.substring(0, type.length() - 2) : type);
         check(own || TYPES.contains(type), 3, "a type that this test does not know: " + type, tree);
+        Set<Modifier> modifiers = tree.getModifiers().getFlags();
+        check(!modifiers.contains(Modifier.STATIC) || modifiers.contains(Modifier.FINAL) && CONSTANTS.contains(type),
+                5, "a static field that is no constant: " + tree, tree);
         return super.visitVariable(tree, nothing);
     }
 
@@ -182,6 +197,60 @@ public final class LanguageTest extends TreePathScanner<Void, Void> {
         TypeMirror type = trees.getTypeMirror(getCurrentPath());
         check(type == null || !type.toString().equals("java.lang.String"), 10, "texts joined by +", tree);
         return super.visitBinary(tree, nothing);
+    }
+
+    @Override
+    public Void visitWhileLoop(WhileLoopTree tree, Void nothing) {
+        checkLoop(tree.getCondition(), List.of(tree.getStatement()), tree);
+        return super.visitWhileLoop(tree, nothing);
+    }
+
+    @Override
+    public Void visitDoWhileLoop(DoWhileLoopTree tree, Void nothing) {
+        checkLoop(tree.getCondition(), List.of(tree.getStatement()), tree);
+        return super.visitDoWhileLoop(tree, nothing);
+    }
+
+    @Override
+    public Void visitForLoop(ForLoopTree tree, Void nothing) {
+        checkLoop(tree.getCondition(), tree.getUpdate(), tree);
+        return super.visitForLoop(tree, nothing);
+    }
+
+    /** A loop's own lines count a variable, which its condition holds against a bound. */
+    private void checkLoop(ExpressionTree condition, List<? extends Tree> steps, Tree loop) {
+        Set<String> counted = new HashSet<>();
+        for (Tree step : steps) {
+            counted.addAll(countedIn(step));
+        }
+        check(condition != null && isBound(condition, counted), 9, "no counter against a bound", loop);
+    }
+
+    private static boolean isBound(ExpressionTree condition, Set<String> counted) {
+        if (condition instanceof ParenthesizedTree inner) {
+            return isBound(inner.getExpression(), counted);
+        }
+        if (!(condition instanceof BinaryTree both)) {
+            return false;
+        }
+        if (both.getKind() == Tree.Kind.CONDITIONAL_AND) {
+            return isBound(both.getLeftOperand(), counted) || isBound(both.getRightOperand(), counted);
+        }
+        return ORDERS.contains(both.getKind()) && counted.contains(both.getLeftOperand().toString());
+    }
+
+    /** The variables that are counted up or down, or divided, on the way through every step. */
+    private static Set<String> countedIn(Tree tree) {
+        Set<String> counted = new HashSet<>();
+        if (tree instanceof BlockTree block) {
+            block.getStatements().forEach(inner -> counted.addAll(countedIn(inner)));
+        } else if (tree instanceof ExpressionStatementTree step && step.getExpression() instanceof UnaryTree one) {
+            counted.add(one.getExpression().toString());
+        } else if (tree instanceof ExpressionStatementTree step
+                && step.getExpression() instanceof CompoundAssignmentTree one) {
+            counted.add(one.getVariable().toString());
+        }
+        return counted;
     }
 
     private void checkDepth() {
