@@ -15,6 +15,7 @@ final class DecodeSentences extends Sentences {
         section("Promise 13");
         sentence(BECOMES, DecodeSentences::wholeTupleIsRead);
         sentence(BECOMES, DecodeSentences::fiveFieldsAreRead);
+        sentence(BECOMES, DecodeSentences::eachKindIsReadInEachPlace);
         sentence(BECOMES, DecodeSentences::longestKeyIsRead);
         sentence(BECOMES, DecodeSentences::absentIsRead);
         sentence(BECOMES, DecodeSentences::onlyLoadedTupleChanges);
@@ -84,6 +85,21 @@ final class DecodeSentences extends Sentences {
         loadRow(x, 128, 253, 127, 0, 2, 0, 100, 0, 3, 233);
         due("decode(), the last two ABSENT", x.decode(), true);
         due("the tuple", tuple(x), "[[0, 0, -900], [0, 0, 0], [0, 0, 1], [1, 0, 0], [1, 0, 0]]");
+    }
+
+    private static void eachKindIsReadInEachPlace() {
+        for (int kind = INT; kind <= INSTANT; kind++) {
+            for (int f = 0; f < 5; f++) {
+                KeyCodec x = sealedWith(fiveOf(kind));
+                x.keep();
+                setAny(x, f, kind);
+                Object tuple = tuple(x);
+                x.encode();
+                x.take(0);
+                due("decode()", x.decode(), true);
+                due("the tuple, with another value in field " + f, tuple(x), tuple);
+            }
+        }
     }
 
     private static void longestKeyIsRead() {

@@ -194,6 +194,20 @@ abstract class Sentences {
         return x;
     }
 
+    /** Kinds and flags of five fields of one kind. */
+    static int[] fiveOf(int kind) {
+        return new int[] {kind, 0, kind, 0, kind, 0, kind, 0, kind, 0};
+    }
+
+    /** Gives a field of this kind a value that is not the first one, in all that it has. */
+    static void setAny(KeyCodec x, int field, int kind) {
+        if (kind == TEXT) {
+            putText(x, field, 7, 0, 8);
+        } else {
+            x.put(field, -1200, kind == INT ? 0 : 4);
+        }
+    }
+
     /** Four optional fields, one of each kind, open. */
     static KeyCodec openKinds() {
         return open(INT, OPTIONAL, DECIMAL, OPTIONAL, TEXT, OPTIONAL, INSTANT, OPTIONAL);

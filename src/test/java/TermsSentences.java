@@ -413,6 +413,7 @@ final class TermsSentences extends Sentences {
     private static void limits() {
         sentence(LOADED, TermsSentences::tupleAtFirst);
         sentence(LOADED, TermsSentences::tupleOfALaterSchema);
+        sentence(LOADED, TermsSentences::eachPlaceOfALaterSchema);
         sentence("THE KEY ROW has at most 120 bytes, at first none.", TermsSentences::keyRowHasEnds);
         sentence("At most 12 tuples are KEPT, numbered 0, 1, ..", TermsSentences::twelveAreKept);
         sentence("The constants: NONE = -1: Nothing there.", TermsSentences::noneIsMinusOne);
@@ -440,6 +441,23 @@ final class TermsSentences extends Sentences {
         x.seal();
         due("the tuple", tuple(x), "[[0, 0, 0], [0, 0, 0], [0, 0, 0], [0, 0, 0], [0, 0, 0]]");
         dueKey(x, 1, 128, 1, 2, 1, 0, 1, 1, 128, 1, 0, 1, 0, 3, 232);
+    }
+
+    private static void eachPlaceOfALaterSchema() {
+        for (int before = INT; before <= INSTANT; before++) {
+            for (int kind = INT; kind <= INSTANT; kind++) {
+                KeyCodec x = sealedWith(fiveOf(before));
+                for (int f = 0; f < 5; f++) {
+                    setAny(x, f, before);
+                }
+                x.clear();
+                for (int f = 0; f < 5; f++) {
+                    x.field(kind, 0);
+                }
+                x.seal();
+                due("the tuple", tuple(x), "[[0, 0, 0], [0, 0, 0], [0, 0, 0], [0, 0, 0], [0, 0, 0]]");
+            }
+        }
     }
 
     private static void keyRowHasEnds() {
